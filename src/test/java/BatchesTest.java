@@ -76,6 +76,12 @@ public final class BatchesTest {
         for (int kind = 0; kind <= 6; kind++) {
             DUE.is("3: WORTH at 1 of " + kind, x.of(kind, 7), cheap[kind]);
         }
+        int[] prices = {0, 2, 4, 5, 6, 9, 99};
+        int[] old = {0, 0, 1, 1, 2, 3, 48};
+        for (int i = 0; i < prices.length; i++) {
+            x.rule(1, prices[i]);
+            DUE.is("3: WORTH of an old one at " + prices[i], x.of(Due.OLD, 7), old[i]);
+        }
         DUE.is("3: of(-1, 0)", x.of(-1, 0), Due.BEYOND);
         DUE.is("3: of(7, 0)", x.of(7, 0), Due.BEYOND);
         DUE.is("3: of(0, -1)", x.of(0, -1), Due.BEYOND);

@@ -28,6 +28,11 @@ public final class FireCartCrowdsTest {
         x.minutes(6);
         DUE.is("8: the later ones warm", x.now(2), 6);
         DUE.is("8: none is due", x.now(8), 0);
+        for (int i = 1; i <= 9; i++) {
+            DUE.is("8: one each minute, 7 are due at most", x.shovel(1), Math.min(i, 7));
+            x.minutes(1);
+            DUE.is("8: due yet", x.now(8), Math.min(i, 6));
+        }
     }
 
     private static void rule() {

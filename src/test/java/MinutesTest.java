@@ -11,6 +11,7 @@ public final class MinutesTest {
         selling();
         halfWorth();
         order();
+        tenBatches();
         walking();
         now();
         at();
@@ -86,6 +87,10 @@ public final class MinutesTest {
         DUE.is("BURSTS: are wasted", x.now(6), 7);
         DUE.is("BURSTS: not on the rim", x.of(1, 4), Due.RIM);
         DUE.is("BURSTS: not a small one", x.of(2, 4), Due.PAN);
+        ChestnutCorner both = Due.told("raw roast 55 pan;raw roast 55 pan;heat 9");
+        both.change(0, 1, 3);
+        both.minutes(1);
+        DUE.is("BURSTS: two in a minute", both.now(6), 3 + 9);
         ChestnutCorner y = Due.told("raw roast 90 pan;heat 7");
         y.minutes(3);
         DUE.is("BURSTS: not at 7", y.of(0, 4), Due.PAN);
@@ -143,6 +148,26 @@ public final class MinutesTest {
         DUE.is("MINUTE (d): two crowds of a minute", x.minutes(1), 2);
         DUE.is("MINUTE (d): the least number of one age", x.of(0, 1), 0);
         DUE.is("MINUTE (d): then the next", x.now(1), 4 + 6);
+    }
+
+    private static void tenBatches() {
+        ChestnutCorner x = new ChestnutCorner();
+        for (int i = 0; i < 10; i++) {
+            x.batch(Due.NUT);
+            x.change(i, 1, 1);
+            x.change(i, 2, 100);
+            x.put(i, Due.HEAP);
+            x.change(i, 3, i);
+        }
+        x.crowd(0, 0, 22);
+        x.crowd(0, 0, 11);
+        x.crowd(0, 1, 11);
+        // Ages are 1 to 10: all are good.
+        DUE.is("MINUTE (d): a bag of each", x.minutes(1), 10);
+        DUE.is("MINUTE (d): for worth", x.now(1), 40);
+        DUE.is("MINUTE (d): lost of both", x.now(7), 2 + 6);
+        x.minutes(1);
+        DUE.is("MINUTE (d): lost ever", x.now(7), 2 + 6 + 6);
     }
 
     private static void walking() {

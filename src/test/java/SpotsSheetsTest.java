@@ -129,6 +129,21 @@ public final class SpotsSheetsTest {
         DUE.is("40: load them", x.load(1), 2);
         DUE.is("40: first", x.of(0, 1), 4);
         DUE.is("40: second", x.of(1, 1), 6);
+        for (int s = 0; s <= 3; s++) {
+            x.sheet(s, 32, 40);
+            x.write(s, 39, s + 1);
+        }
+        for (int s = 0; s <= 3; s++) {
+            x.sheet(s, 32, s == 0 ? 2 : 40);
+            x.write(s, 0, s + 2);
+        }
+        for (int s = 0; s <= 3; s++) {
+            DUE.is("39: each sheet has its own", x.copy(s, 0, 0, 1, 1), 1);
+            x.load(0);
+            DUE.is("39: each sheet has its own", x.of(1, 1), s + 2);
+            DUE.is("39: and keeps it", x.of(0, 1), 2);
+        }
+        x.sheet(2, 8, 3);
         DUE.is("40: other sheets stay", x.load(2), 3);
         DUE.is("40: other sheets stay", x.count(2), 0);
     }

@@ -53,6 +53,15 @@ public final class TextsTest {
         DUE.is("34: none again", x.wipe(), 0);
         DUE.is("34: nothing to read", x.text(), -1);
         DUE.is("34: the heat stays", x.now(2), 5);
+        Due.feed(x, "heat 12");
+        x.wipe();
+        Due.feed(x, "heat 1");
+        DUE.is("34: nothing of it is read", x.text(), 1);
+        DUE.is("34: nothing of it is read", x.now(2), 1);
+        Due.feed(x, "nut rim");
+        x.wipe();
+        Due.feed(x, "nut ri");
+        DUE.is("34: nothing of it is read", x.text(), -5);
     }
 
     private static void read(String text, int want) {
@@ -99,6 +108,7 @@ public final class TextsTest {
     private static void blanksAndNumbers() {
         read("  nut   roast   5  ;  heat 3  ", 2);
         read("nut roast5pan;heat3;crowd3at0minute0", 3);
+        read("nut roast 0;nut roast 0 rim", 2);
         read("nutroast 5", -1);
         read("nut\tpan", -4);
         read("heat 0000000000000000000020", 1);
@@ -113,6 +123,14 @@ public final class TextsTest {
         read(";", -1);
         read("#", -1);
         read("nuts", -1);
+        read("nutz", -1);
+        read("nu", -1);
+        read("but", -1);
+        read("nut{", -4);
+        read("nut`", -4);
+        read("heat 5:", -7);
+        read("heat 5/", -7);
+        read("nut,", -4);
         read("roast 5", -1);
         read("nut large", -5);
         read("nut 5", -5);
