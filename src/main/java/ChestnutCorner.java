@@ -54,6 +54,7 @@ public final class ChestnutCorner {
     // Two evenings to try things on, made once: a call makes no object.
     private final Evening trial = new Evening();
     private final Evening waiting = new Evening();
+    private final Choice choice = new Choice();
     private final Tape tape = new Tape();
     private final TextReader reader = new TextReader(tape, trial);
     private final Sheets sheets = new Sheets();
@@ -324,20 +325,15 @@ public final class ChestnutCorner {
         if (!evening.nuts.isOverFire(batch) || isTooLate(n)) {
             return finding(STATE);
         }
-        int best = 0;
-        int most = -1;
+        choice.clear();
         waiting.become(evening);
         // From n on nothing is taken off, so that one wait of n stands for all the longer ones.
         int longest = Math.min(n, LONGEST_WAIT);
         for (int wait = 0; wait <= longest; wait++) {
-            int coin = coinTakenOff(batch, n - wait);
-            if (coin > most) {
-                most = coin;
-                best = wait;
-            }
+            choice.offer(wait, coinTakenOff(batch, n - wait));
             waiting.pass(1);
         }
-        return best;
+        return choice.best;
     }
 
     public int shovels(int n) {
@@ -347,18 +343,13 @@ public final class ChestnutCorner {
         if (isTooLate(n)) {
             return finding(STATE);
         }
-        int best = 0;
-        int most = -1;
+        choice.clear();
         for (int shovels = 0; shovels <= MOST_SHOVELS; shovels++) {
             trial.become(evening);
             trial.addShovels(shovels);
-            int coin = trial.pass(n);
-            if (coin > most) {
-                most = coin;
-                best = shovels;
-            }
+            choice.offer(shovels, trial.pass(n));
         }
-        return best;
+        return choice.best;
     }
 
     public int corner(int n) {
@@ -368,18 +359,13 @@ public final class ChestnutCorner {
         if (evening.walks > 0 || isTooLate(n)) {
             return finding(STATE);
         }
-        int best = 0;
-        int most = -1;
+        choice.clear();
         for (int corner = 0; corner <= LAST_CORNER; corner++) {
             trial.become(evening);
             trial.setOut(corner);
-            int coin = trial.pass(n);
-            if (coin > most) {
-                most = coin;
-                best = corner;
-            }
+            choice.offer(corner, trial.pass(n));
         }
-        return best;
+        return choice.best;
     }
 
     public int two(int k, int n) {
@@ -389,21 +375,16 @@ public final class ChestnutCorner {
         if (evening.walks > 0 || isTooLate(n)) {
             return finding(STATE);
         }
-        int best = 0;
-        int most = -1;
+        choice.clear();
         for (int first = 0; first <= LAST_CORNER; first++) {
             waiting.become(evening);
             waiting.setOut(first);
             int before = waiting.pass(k);
             for (int second = 0; second <= LAST_CORNER; second++) {
-                int coin = before + coinFromCorner(second, n - k);
-                if (coin > most) {
-                    most = coin;
-                    best = 10 * first + second;
-                }
+                choice.offer(10 * first + second, before + coinFromCorner(second, n - k));
             }
         }
-        return best;
+        return choice.best;
     }
 
     public int price(int n) {
@@ -413,18 +394,13 @@ public final class ChestnutCorner {
         if (isTooLate(n)) {
             return finding(STATE);
         }
-        int best = 0;
-        int most = -1;
+        choice.clear();
         for (int price = 0; price <= MOST_PRICE; price++) {
             trial.become(evening);
             trial.price = price;
-            int coin = trial.pass(n);
-            if (coin > most) {
-                most = coin;
-                best = price;
-            }
+            choice.offer(price, trial.pass(n));
         }
-        return best;
+        return choice.best;
     }
 
     public int kindFor(int batch, int n) {
@@ -434,18 +410,13 @@ public final class ChestnutCorner {
         if (isTooLate(n)) {
             return finding(STATE);
         }
-        int best = 0;
-        int most = -1;
+        choice.clear();
         for (int kind = NUT; kind <= OLD; kind++) {
             trial.become(evening);
             trial.nuts.kind[batch] = kind;
-            int coin = trial.pass(n);
-            if (coin > most) {
-                most = coin;
-                best = kind;
-            }
+            choice.offer(kind, trial.pass(n));
         }
-        return best;
+        return choice.best;
     }
 
     public int heatFor(int batch, int n) {
@@ -488,16 +459,11 @@ public final class ChestnutCorner {
             return finding(NONE);
         }
         // COIN with all CROWDS is the same for each: the one without which least is had brings most.
-        int best = 0;
-        int least = coinWithout(0, n);
-        for (int crowd = 1; crowd < evening.crowds.count; crowd++) {
-            int coin = coinWithout(crowd, n);
-            if (coin < least) {
-                least = coin;
-                best = crowd;
-            }
+        choice.clear();
+        for (int crowd = 0; crowd < evening.crowds.count; crowd++) {
+            choice.offer(crowd, -coinWithout(crowd, n));
         }
-        return best;
+        return choice.best;
     }
 
     public int left(int n) {
@@ -509,15 +475,13 @@ public final class ChestnutCorner {
         }
         trial.become(evening);
         trial.pass(n);
-        int best = -1;
-        int most = -1;
+        choice.clear();
         for (int batch = 0; batch < trial.nuts.count; batch++) {
-            if (!trial.nuts.isGone(batch) && trial.nuts.bags[batch] > most) {
-                most = trial.nuts.bags[batch];
-                best = batch;
+            if (!trial.nuts.isGone(batch)) {
+                choice.offer(batch, trial.nuts.bags[batch]);
             }
         }
-        return best < 0 ? finding(NONE) : best;
+        return choice.best < 0 ? finding(NONE) : choice.best;
     }
 
     public int boys(int n) {
@@ -830,6 +794,23 @@ public final class ChestnutCorner {
         trial.become(evening);
         trial.crowds.many[crowd] = 0;
         return trial.pass(n);
+    }
+
+    /** Of the numbers that are offered, the first that is worth most; -1 if there is none. */
+    private static final class Choice {
+        int best = -1;
+        private int most = 0;
+
+        void clear() {
+            best = -1;
+        }
+
+        void offer(int number, int worth) {
+            if (best < 0 || worth > most) {
+                best = number;
+                most = worth;
+            }
+        }
     }
 
     /** What the kinds of nuts have of their own, and what they have as the kind above them. */

@@ -133,6 +133,9 @@ public final class BatchesTest {
         DUE.is("5: and wasted", x.now(6), 4);
         DUE.is("5: it is gone", x.put(0, Due.PAN), Due.STATE);
         DUE.is("5: gone already", x.put(0, Due.GONE), Due.STATE);
+        x.batch(0);
+        DUE.is("5: another one, out of the sack", x.put(1, Due.GONE), 0);
+        DUE.is("5: wasted ever", x.now(6), 4 + 9);
         DUE.is("5: BEYOND is asked ahead of STATE", x.put(0, 0), Due.BEYOND);
     }
 

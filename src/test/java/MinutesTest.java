@@ -160,14 +160,14 @@ public final class MinutesTest {
             x.change(i, 3, i);
         }
         x.crowd(0, 0, 22);
-        x.crowd(0, 0, 11);
+        x.crowd(0, 1, 11);
         x.crowd(0, 1, 11);
         // Ages are 1 to 10: all are good.
         DUE.is("MINUTE (d): a bag of each", x.minutes(1), 10);
         DUE.is("MINUTE (d): for worth", x.now(1), 40);
-        DUE.is("MINUTE (d): lost of both", x.now(7), 2 + 6);
+        DUE.is("MINUTE (d): lost", x.now(7), 2);
         x.minutes(1);
-        DUE.is("MINUTE (d): lost ever", x.now(7), 2 + 6 + 6);
+        DUE.is("MINUTE (d): lost ever, of both", x.now(7), 2 + 6 + 6);
     }
 
     private static void walking() {
@@ -252,6 +252,7 @@ public final class MinutesTest {
     private static void ready() {
         ChestnutCorner x = Due.told("nut roast 90 pan;nut;raw roast 30 pan;nut roast 140 rim;heat 9");
         DUE.is("18: two minutes", x.ready(0), 2);
+        DUE.is("18: asked again", x.ready(0), 2);
         DUE.is("18: in the sack", x.ready(1), Due.NONE);
         DUE.is("18: bursts first", x.ready(2), Due.NONE);
         DUE.is("18: burnt ones are ready", x.ready(3), 0);
@@ -287,6 +288,7 @@ public final class MinutesTest {
     private static void burnt() {
         ChestnutCorner x = Due.told("nut roast 120 pan;nut;raw roast 30 pan;nut roast 140 rim;heat 9");
         DUE.is("19: three minutes", x.burnt(0), 3);
+        DUE.is("19: asked again", x.burnt(0), 3);
         DUE.is("19: in the sack", x.burnt(1), Due.NONE);
         DUE.is("19: bursts", x.burnt(2), 3);
         DUE.is("19: now", x.burnt(3), 0);

@@ -283,7 +283,7 @@ public final class PlansTest {
         ChestnutCorner x = Due.told("nut roast 100 heap;crowd 4 at 0 minute 0;crowd 9 at 0 minute 1;crowd 40 at 1 minute 1");
         DUE.is("29: by 1", x.best(1), 0);
         DUE.is("29: by 2", x.best(2), 1);
-        x.crowd(0, 1, 5);
+        x.crowd(0, 1, 7);
         DUE.is("29: more than the next", x.best(2), 1);
         x.late(1, 2, 4);
         x.late(3, 2, 4);
