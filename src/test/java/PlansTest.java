@@ -25,6 +25,7 @@ public final class PlansTest {
         boys();
         seed();
         tooLate();
+        fullHouse();
         DUE.end();
     }
 
@@ -139,6 +140,8 @@ public final class PlansTest {
         DUE.is("22: n 0", x.shovels(0), Due.BEYOND);
         DUE.is("22: n 121", x.shovels(121), Due.BEYOND);
         DUE.is("22: none is sold over the fire", x.shovels(120), 0);
+        DUE.is("22: behind another plan", x.price(4), 66);
+        DUE.is("22: none is sold over the fire, asked again", x.shovels(120), 0);
         DUE.is("22: nothing changes", x.now(8), 0);
     }
 
@@ -358,6 +361,35 @@ public final class PlansTest {
         DUE.is("32: any int", x.seed(-1000001), Integer.MIN_VALUE);
         DUE.is("32: that is no finding", x.seed(0), -1000001);
         DUE.is("32: that is no finding", x.status(-1), 0);
+    }
+
+    /** As many batches and crowds as there may be: each call goes through all of them. */
+    private static void fullHouse() {
+        ChestnutCorner x = new ChestnutCorner();
+        for (int i = 0; i < 10; i++) {
+            x.batch(Due.NUT);
+            x.change(i, 2, 100);
+            x.change(i, 1, i == 9 ? 9 : 8);
+        }
+        for (int i = 0; i < 12; i++) {
+            x.crowd(0, 1, i == 11 ? 3 : 2);
+        }
+        x.put(9, Due.RIM);
+        DUE.is("16: all but one in the sack", x.at(0), 511);
+        DUE.is("17: the last one is done", x.ahead(0, 4), 512);
+        DUE.is("17: bags left", x.ahead(0, 5), 81);
+        DUE.is("46: BAGS of all", x.count(2), 81);
+        DUE.is("46: MANY of all", x.count(3), 25);
+        DUE.is("30: the last one", x.left(120), 9);
+        DUE.is("21: the last one, by MINUTE 1", x.takeOff(9, 2), 0);
+        x.put(9, Due.HEAP);
+        x.late(11, 2, 4);
+        // Of all others one comes, of the last one two.
+        DUE.is("29: bags not being enough, none brings a thing", x.best(2), 0);
+        x.change(8, 2, 110);
+        x.put(8, Due.HEAP);
+        DUE.is("29: the last one brings most, bags being enough", x.best(2), 11);
+        DUE.is("14: all of them buy", x.minutes(2), 13);
     }
 
     private static void tooLate() {
