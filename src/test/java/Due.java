@@ -41,6 +41,15 @@ final class Due {
         is(what, so ? 1 : 0, 1);
     }
 
+    /** Whether two rows are alike: the first place at which they differ is told. */
+    void same(String what, int[] got, int[] want) {
+        int i = 0;
+        while (i < got.length - 1 && got[i] == want[i]) {
+            i++;
+        }
+        is(what + " place " + i, got[i], want[i]);
+    }
+
     /** Ends the test: with exit code 1 if an answer was wrong, or if nothing was asked. */
     void end() {
         System.out.println(test + ": " + asked + " asked, " + wrong + " wrong");
