@@ -36,6 +36,14 @@ public final class FireEdgesTest {
         x.minutes(1);
         DUE.is("8: due no more", x.now(8), 0);
         DUE.is("8: those of before don't count", x.shovel(2), 2);
+        for (int m = 0; m <= 7; m++) {
+            ChestnutCorner y = Scenes.until(new ChestnutCorner(), m);
+            DUE.is("8: put on in minute " + m, y.shovel(4), 4);
+            y.minutes(6);
+            DUE.is("8: due for 6 minutes from minute " + m, y.now(8), 4);
+            y.minutes(1);
+            DUE.is("8: not for 7 from minute " + m, y.now(8), 0);
+        }
         ChestnutCorner last = Scenes.until(new ChestnutCorner(), 999);
         DUE.is("8: in the last minute, too", last.shovel(9), 9);
         DUE.is("8: they are due for ever", last.shovel(9), 18);

@@ -73,6 +73,7 @@ public final class ImageEdgesTest {
         ChestnutCorner same = Scenes.evening();
         x.image();
         same.image();
+        x.crowd(0, 30, 400);
         x.minutes(40);
         x.put(1, Due.GONE);
         x.put(2, Due.HEAP);

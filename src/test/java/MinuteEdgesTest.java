@@ -17,6 +17,7 @@ public final class MinuteEdgesTest {
         aheadSets();
         aheadSetOfAll();
         aheadBags();
+        aheadLost();
         aheadOfWalks();
         ready();
         readyEdges();
@@ -147,6 +148,18 @@ public final class MinuteEdgesTest {
         x.put(3, Due.GONE);
         x.change(3, 1, 9);
         DUE.is("17: and of one that is gone", x.ahead(0, 5), 27);
+    }
+
+    private static void aheadLost() {
+        ChestnutCorner x = new ChestnutCorner();
+        x.crowd(0, 0, 8);
+        x.crowd(0, 1, 20);
+        DUE.is("17: lost in one", x.ahead(1, 2), 4);
+        DUE.is("17: lost in two", x.ahead(2, 2), 14);
+        x.minutes(1);
+        DUE.is("17: lost in none, though some were", x.ahead(0, 2), 0);
+        DUE.is("17: lost in the second one alone", x.ahead(1, 2), 10);
+        DUE.is("17: lost ever stays", x.now(7), 4);
     }
 
     private static void aheadOfWalks() {

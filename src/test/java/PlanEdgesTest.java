@@ -38,6 +38,7 @@ public final class PlanEdgesTest {
         boys();
         boysTake();
         seed();
+        behindOneAnother();
         DUE.end();
     }
 
@@ -214,6 +215,13 @@ public final class PlanEdgesTest {
     private static void corner() {
         WALKING.refused("23: it walks", Due.STATE, x -> x.corner(1));
         WALKING.beyond("23: BEYOND is asked ahead of STATE, it walks: n", 1, 120, ChestnutCorner::corner);
+        Edge arriving = new Edge(DUE, () -> {
+            ChestnutCorner x = Scenes.walking();
+            x.minutes(5);
+            return x;
+        });
+        arriving.refused("23: it walks for one minute yet", Due.STATE, x -> x.corner(1));
+        arriving.refused("24: it walks for one minute yet", Due.STATE, x -> x.two(1, 2));
         LAST_WALKING.refused("23: both of STATE", Due.STATE, x -> x.corner(1));
         EMPTY.asks("23: of several the least", 0, x -> x.corner(120));
         Edge last = on("nut roast 100 heap;crowd 9 at 3 minute 9");
@@ -425,5 +433,37 @@ public final class PlanEdgesTest {
             DUE.is("32: z was, " + z, x.seed(5), z);
             DUE.is("32: that is no finding, " + z, x.status(-1), 0);
         }
+    }
+
+    private static final Edge.CallOf[] PLANS = {
+        (x, n) -> x.ahead(n, 0), (x, n) -> x.ahead(n, 2), (x, n) -> x.ready(1), (x, n) -> x.burnt(1),
+        (x, n) -> x.putOn(0, n), (x, n) -> x.takeOff(1, n), ChestnutCorner::shovels, ChestnutCorner::corner,
+        (x, n) -> x.two(2, n), ChestnutCorner::price, (x, n) -> x.kindFor(3, n), (x, n) -> x.heatFor(1, n),
+        (x, n) -> x.brings(0, n), (x, n) -> x.brings(1, n), ChestnutCorner::best, ChestnutCorner::left};
+
+    /** AHEAD nothing changes: each plan is told behind each other one as it is told on an object of its own. */
+    private static void behindOneAnother() {
+        for (int i = 0; i < PLANS.length; i++) {
+            for (int j = 0; j < PLANS.length; j++) {
+                ChestnutCorner x = busy();
+                PLANS[i].on(x, 5);
+                DUE.is("plan " + j + " behind plan " + i, PLANS[j].on(x, 9), PLANS[j].on(busy(), 9));
+                DUE.is("plan " + i + " again", PLANS[i].on(x, 5), PLANS[i].on(busy(), 5));
+            }
+        }
+    }
+
+    /** A MINUTE in which some have bought and some were lost, and more of them come. */
+    private static ChestnutCorner busy() {
+        ChestnutCorner x = Due.told("nut roast 90;nut roast 90 pan;raw roast 60 rim;old roast 120 heap;sweet roast 140 heap;"
+                + "heat 9;price 30");
+        x.crowd(0, 0, 50);
+        x.crowd(0, 6, 30);
+        x.crowd(1, 8, 40);
+        x.shovel(2);
+        x.minutes(1);
+        x.change(3, 1, 5);
+        x.change(4, 1, 7);
+        return x;
     }
 }
