@@ -58,10 +58,15 @@ final class Due {
         }
     }
 
-    /** Feeds a text, byte by byte. */
+    /** Feeds a text, four bytes at a time, since an object has but 512 calls. */
     static void feed(ChestnutCorner x, String text) {
-        for (int i = 0; i < text.length(); i++) {
-            x.feed(text.charAt(i), 1);
+        for (int i = 0; i < text.length(); i += 4) {
+            int n = Math.min(4, text.length() - i);
+            int bytes = 0;
+            for (int j = 0; j < n; j++) {
+                bytes = bytes << 8 | text.charAt(i + j);
+            }
+            x.feed(bytes, n);
         }
     }
 

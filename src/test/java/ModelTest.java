@@ -47,7 +47,10 @@ public final class ModelTest {
         boolean wild = i % 5 == 0;
         for (int n = 0; n < CALLS; n++) {
             if (draw(wild ? 60 : 40) == 0) {
-                n += feed(x, model, draw(2) == 0 ? told() : jumble());
+                String text = draw(2) == 0 ? told() : jumble();
+                if (n + text.length() < CALLS) {
+                    n += feed(x, model, text);
+                }
                 continue;
             }
             Method call = pick(n);
@@ -134,7 +137,7 @@ public final class ModelTest {
             DUE.is("feed", x.feed(text.charAt(i), 1), model.answer("feed", text.charAt(i), 1));
         }
         DUE.is("text of \"" + text + "\"", x.text(), model.answer("text"));
-        return text.length() + 1;
+        return text.length();
     }
 
     private static String jumble() {

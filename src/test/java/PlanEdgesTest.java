@@ -455,8 +455,8 @@ public final class PlanEdgesTest {
 
     /** A MINUTE in which some have bought and some were lost, and more of them come. */
     private static ChestnutCorner busy() {
-        ChestnutCorner x = Due.told("nut roast 90;nut roast 90 pan;raw roast 60 rim;old roast 120 heap;sweet roast 140 heap;"
-                + "heat 9;price 30");
+        ChestnutCorner x = Due.told("nut roast 90;nut roast 90 pan;raw roast 60 rim;old roast 120 heap;"
+                + "sweet roast 140 heap;heat 9;price 30");
         x.crowd(0, 0, 50);
         x.crowd(0, 6, 30);
         x.crowd(1, 8, 40);

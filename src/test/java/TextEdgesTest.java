@@ -241,8 +241,8 @@ public final class TextEdgesTest {
     }
 
     private static void tooEarly() {
-        String[] texts = {"", "nut roast", "crowd", "crowd 5", "crowd 5 at", "crowd 5 at 3", "crowd 5 at 3 minute", "heat",
-            "price", "cold", "nut;", "nut roast 5 rim;", "heat 3;", "nut;heat", "nut;crowd 5 at 3"};
+        String[] texts = {"", "nut roast", "crowd", "crowd 5", "crowd 5 at", "crowd 5 at 3", "crowd 5 at 3 minute",
+            "heat", "price", "cold", "nut;", "nut roast 5 rim;", "heat 3;", "nut;heat", "nut;crowd 5 at 3"};
         for (String text : texts) {
             fault(text, text.length());
             fault(text + " ", text.length() + 1);

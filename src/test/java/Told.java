@@ -1,6 +1,7 @@
 /**
- * All but status() that can be asked of an object, as one row of answers: two objects with the same row are alike. The object is
- * spent behind it: at the end its tape is read, its sheets are loaded, its image comes back and is torn.
+ * All but status() that can be asked of an object, as one row of answers: two objects with the same row are alike. The
+ * object is spent behind it: at the end its tape is read, its sheets are loaded, its image comes back and is torn. It
+ * takes some 400 calls of the 512 that an object has.
  */
 final class Told {
     private static final int[] AHEAD = {1, 2, 9};
@@ -50,12 +51,14 @@ final class Told {
         for (int what = 0; what <= 8; what++) {
             tell(x.now(what), x.count(what));
         }
-        for (int batch = 0; batch < x.count(0); batch++) {
+        int batches = x.count(0);
+        for (int batch = 0; batch < batches; batch++) {
             for (int what = 0; what <= 4; what++) {
                 tell(x.of(batch, what));
             }
         }
-        for (int crowd = 0; crowd < x.count(1); crowd++) {
+        int crowds = x.count(1);
+        for (int crowd = 0; crowd < crowds; crowd++) {
             tell(x.crowdOf(crowd, 0), x.crowdOf(crowd, 1), x.crowdOf(crowd, 2));
         }
         for (int spot = 0; spot <= 9; spot++) {
@@ -64,7 +67,8 @@ final class Told {
     }
 
     private void bags() {
-        for (int batch = 0; batch < x.count(0); batch++) {
+        int batches = x.count(0);
+        for (int batch = 0; batch < batches; batch++) {
             tell(x.of(batch, 1));
         }
     }
