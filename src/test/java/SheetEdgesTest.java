@@ -179,7 +179,8 @@ public final class SheetEdgesTest {
 
     private static void lowestBits() {
         int[] vs = {0, 9, 10, -1, 127, 128, 255, 256, 265, 266, 511, -256, -247, 0x7F09, 0x8000, 0xFFFF, 0x10000,
-            0x10009, 0x1000A, 0x12340005, 0x7FFF0003, 0x80000004, 0xFFFF0006, 0xFFFFFF07, Integer.MAX_VALUE, Integer.MIN_VALUE};
+            0x10009, 0x1000A, 0x12340005, 0x7FFF0003, 0x80000004, 0xFFFF0006, 0xFFFFFF07,
+            Integer.MAX_VALUE, Integer.MIN_VALUE};
         for (int v : vs) {
             int low8 = v & 255;
             int low16 = v & 65535;
